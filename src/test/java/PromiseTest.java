@@ -392,10 +392,15 @@ public final class PromiseTest {
         x.days(1);
         due("debt is 0 at least", x.ofPaper(1, 2), 0);
         due("day", x.count(1), 8);
+        x.change(7, 2, 500);
+        x.change(1, 0, 1);
+        x.days(1);
+        due("one not up, though far", x.ofPaper(7, 2), 1000);
+        due("a debt of 1", x.ofPaper(1, 2), 0);
         text(x, 1, "d*100+o/100");
         x.change(0, 0, 5000);
         x.days(1);
-        due("day 8 is 1, debt as it was", x.ofPaper(0, 2), 5000 - 150);
+        due("day 9 is 2, debt as it was", x.ofPaper(0, 2), 5000 - 250);
         CraneFolds letter = new CraneFolds();
         gone(letter, 30, 9, 127);
         letter.days(1);
@@ -433,6 +438,12 @@ public final class PromiseTest {
         refused("loose(41)", x, BEYOND, () -> x.loose(41));
         x.loose(40);
         due("day 45", x.count(1), 45);
+        for (int k = 0; k < 165; k++) x.days(60);
+        x.days(15);
+        refused("day 10000", x, STATE, () -> x.loose(40));
+        due("day 9960", x.count(1), 9960);
+        x.loose(39);
+        due("just to 9999", x.count(1), 9999);
     }
 
     private static void shape() {
@@ -455,8 +466,8 @@ public final class PromiseTest {
         due("least(7, 8)", x.least(7, 8), 1);
         due("least(6, 2)", x.least(6, 2), 2);
         due("least(5, 8)", x.least(5, 8), 4);
-        due("least(3, 3)", x.least(3, 3), searchLeast(x, 3, 3));
-        due("least(2, 4)", x.least(2, 4), searchLeast(x, 2, 4));
+        for (int w = 1; w <= 8; w++)
+            for (int t = 1; t <= 8; t++) due("least(" + w + ", " + t + ")", x.least(w, t), searchLeast(w, t));
         due("least(1, 8)", x.least(1, 8), 127);
         refused("least(1, 7)", x, NONE, () -> x.least(1, 7));
         refused("least(7, 1)", x, NONE, () -> x.least(7, 1));
@@ -466,10 +477,11 @@ public final class PromiseTest {
         refused("least(1, 9)", x, BEYOND, () -> x.least(1, 9));
     }
 
-    private static int searchLeast(CraneFolds x, int wide, int thick) {
+    private static int searchLeast(int wide, int thick) {
         for (int many = 0; many < 8; many++)
             for (int set = 0; set < 128; set++)
-                if (Integer.bitCount(set) == many && x.shape(set, 0) <= wide && x.shape(set, 1) <= thick) return set;
+                if (Integer.bitCount(set) == many && NaiveFolds.wide(set) <= wide && NaiveFolds.thick(set) <= thick)
+                    return set;
         return NONE;
     }
 
@@ -553,10 +565,21 @@ public final class PromiseTest {
         due("open(1, 8)", x.open(1, 8), 42);
         due("open(2, 8)", x.open(2, 8), 0);
         due("nothing is unfolded", x.ofPaper(0, 3), 127);
+        int p = folded(x, 0, 0, 45);
+        for (int w = 1; w <= 8; w++) due("open(3, " + w + ")", x.open(p, w), searchOpen(45, w));
+        due("one crease rather than 12, which is less", x.open(p, 5), 32);
         refused("open(0, 0)", x, BEYOND, () -> x.open(0, 0));
         refused("open(0, 9)", x, BEYOND, () -> x.open(0, 9));
-        refused("open(3, 1)", x, BEYOND, () -> x.open(3, 1));
+        refused("open(4, 1)", x, BEYOND, () -> x.open(4, 1));
         refused("open(-1, 1)", x, BEYOND, () -> x.open(-1, 1));
+    }
+
+    private static int searchOpen(int creases, int wide) {
+        for (int many = 0; many < 8; many++)
+            for (int set = 0; set < 128; set++)
+                if (Integer.bitCount(set) == many && (set & creases) == set && NaiveFolds.wide(creases - set) >= wide)
+                    return set;
+        return NONE;
     }
 
     private static void alike() {
@@ -573,6 +596,10 @@ public final class PromiseTest {
         due("the first", x.alike(1), 13);
         refused("alike(2)", x, BEYOND, () -> x.alike(2));
         refused("alike(-1)", x, BEYOND, () -> x.alike(-1));
+        x.fold(0, 3);
+        x.fold(0, 6);
+        due("0 with 1 as well", x.alike(0), 3);
+        due("neighbours", x.alike(1), 1);
         CraneFolds y = new CraneFolds();
         // 2 and 3 are as wide, but not as thick.
         folded(y, 0, 0, 2);
@@ -746,6 +773,10 @@ public final class PromiseTest {
         x.change(2, 1, 1);
         due("all are up", x.debtor(5), 0);
         x.change(2, 1, 0);
+        x.change(2, 0, 1);
+        x.change(2, 2, 500);
+        due("one that owes 1", x.debtor(1), 2);
+        x.change(2, 1, 0);
         x.fold(2, 3);
         due("a bill that doesn't live: it is 8 wide, and goes 2", x.debtor(20), 2);
         due("it is only thought", x.count(4), 11);
@@ -900,6 +931,9 @@ public final class PromiseTest {
         debtsAre(x, 1, 9, 3, 4, 4, 9);
         debtsAre(x, 0, 1, 2, 3, 4, 4);
         due("none", x.move(0, 5, 1, 5, 0), 0);
+        due("all", x.move(0, 0, 1, 0, 5), 5);
+        debtsAre(x, 1, 1, 2, 3, 4, 4);
+        row(x, 1, 16, 9, 3, 4, 4, 9);
         x.sheet(2, 32, 5);
         refused("move(4, ..)", x, BEYOND, () -> x.move(4, 0, 0, 0, 0));
         refused("move(.., -1, ..)", x, BEYOND, () -> x.move(0, 0, -1, 0, 0));
@@ -943,6 +977,9 @@ public final class PromiseTest {
         x.sheet(1, 8, 0);
         due("an empty one", x.debts(1), 0);
         refused("a missing one", x, NONE, () -> x.debts(2));
+        row(x, 3, 8, 66);
+        due("the last sheet", x.debts(3), 1);
+        due("66", x.ofPaper(0, 2), 66);
         refused("debts(4)", x, BEYOND, () -> x.debts(4));
         refused("debts(-1)", x, BEYOND, () -> x.debts(-1));
     }
@@ -983,6 +1020,7 @@ public final class PromiseTest {
     }
 
     private static void restore() {
+        restoreOfPapers();
         CraneFolds x = new CraneFolds();
         refused("restore() of none", x, NONE, x::restore);
         gone(x, 14, 500, 8);
@@ -1001,9 +1039,9 @@ public final class PromiseTest {
         x.loose(9);
         x.tell(6);
         x.feed('7', 1);
-        text(x, 0, "1");
         x.text(1);
-        text(x, 1, "1");
+        due("another going", text(x, 0, "1"), 1);
+        due("another lapse", text(x, 1, "1"), 1);
         row(x, 0, 16, 8, 0);
         x.voice(0, 3, 4);
         int[] trace = new int[x.count(8)];
@@ -1028,6 +1066,27 @@ public final class PromiseTest {
             wrong++;
             System.out.println("restore: " + kept + " is " + now);
         }
+    }
+
+    private static void restoreOfPapers() {
+        CraneFolds x = new CraneFolds();
+        gone(x, 14, 500, 8);
+        x.tell(x.owed(1));
+        x.image();
+        x.change(0, 1, 0);
+        x.fold(0, 5);
+        x.change(0, 0, 1);
+        gone(x, 0, 70, 36);
+        x.change(1, 2, 300);
+        x.check();
+        x.tell(-1);
+        x.restore();
+        int[] was = {1, 4, 500, 8, 1, 0, 4, 2, 8, 1};
+        for (int k = 0; k < 10; k++) due("restored " + k, x.ofPaper(0, k), was[k]);
+        due("what waits is as it was", x.check(), 0);
+        due("a new paper", x.paper(33, 9), 1);
+        int[] fresh = {3, 3, 9, 0, 0, 0, 8, 1, 6, 0};
+        for (int k = 0; k < 10; k++) due("a new paper's " + k, x.ofPaper(1, k), fresh[k]);
     }
 
     private static String withoutTrace(String seen, int length) {
@@ -1063,6 +1122,16 @@ public final class PromiseTest {
         due("none wait then, too", x.count(7), 0);
         x.tell(100);
         due("the first isn't", x.check(), 1);
+        text(x, 1, "d*10");
+        x.change(0, 0, 200);
+        x.tell(200);
+        x.tell(190);
+        x.tell(170);
+        due("by days of 7", x.check(), 0);
+        x.days(3);
+        x.tell(140);
+        x.tell(100);
+        due("from day 3", x.check(), 0);
         for (int k = 1; k <= 20; k++) x.tell(x.owed(k));
         due("twenty", x.check(), 0);
         for (int k = 1; k <= 19; k++) x.tell(x.owed(k));
