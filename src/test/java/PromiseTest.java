@@ -617,6 +617,8 @@ public final class PromiseTest {
         due("then(60, 0, 0)", x.then(60, 0, 0), 300);
         due("then(60, 0, 1)", x.then(60, 0, 1), 0);
         due("one that isn't up", x.then(60, 1, 0) + x.then(60, 1, 1), 70);
+        x.change(1, 2, 500);
+        due("one that isn't up, though far", x.then(60, 1, 1), 70);
         due("it is only thought", x.count(1) + x.ofPaper(0, 5), 0);
         refused("then(61, 0, 0)", x, BEYOND, () -> x.then(61, 0, 0));
         refused("then(-1, 0, 0)", x, BEYOND, () -> x.then(-1, 0, 0));
