@@ -49,6 +49,7 @@ public final class EdgesTest {
         check();
         count();
         told();
+        amongMuch();
         Run.end();
     }
 
@@ -360,6 +361,10 @@ public final class EdgesTest {
         Run.of("22: more GONE than now: all are", "flying(0,5,8) change(0,2,100) first(0)=NONE first(1)=NONE");
         Run.of("22: more GONE than now: one is, another follows", "flying(0,5,8) change(0,2,100) flying(0,5,8)",
             "change(1,2,95) first(0)=1 first(1)=1");
+        Run.of("22: more GONE than now: one is FAR beyond", "flying(0,5,8) change(0,2,101) flying(0,5,8)",
+            "change(1,2,90) first(0)=2 first(1)=1 change(0,2,999) first(0)=2 first(1)=1 change(1,2,101) first(0)=NONE");
+        Run.of("22: which: the first, though one behind it goes later", "flying(0,5,8) flying(0,5,8) change(0,2,95)",
+            "change(1,2,90) first(0)=1 first(1)=0");
         Run.of("22: one that isn't UP is not GONE, though FAR", "folded(0,5,8) change(0,2,100) flying(0,5,8)",
             "change(1,2,94) first(0)=2 first(1)=1");
         Run.of("22: which (the least)", "paper(0,0) flying(0,5,8) flying(0,5,8) change(1,2,90) change(2,2,90)",
@@ -444,6 +449,10 @@ public final class EdgesTest {
         Run.of("26: of several the least", "paper(0,0) folded(10,500,8) folded(10,500,8) debtor(5)=1");
         Run.of("26: would make OWED least", "folded(0,500,8) folded(10,500,8) folded(0,500,8) debtor(5)=1");
         Run.of("26: one that is UP changes nothing", "flying(10,9000,8) folded(0,500,8) debtor(20)=1");
+        Run.of("26: one that is UP changes nothing: another less by 1", "flying(10,9000,8) folded(0,500,8)",
+            "change(1,2,4) debtor(1)=0 change(1,2,5) debtor(1)=1");
+        Run.of("26: one that is UP changes nothing: another less by 0", "folded(0,500,8) flying(10,9000,8)",
+            "debtor(0)=0 debtor(1)=0");
         Run.of("26: all are UP: the least", "flying(10,9000,8) flying(10,9000,8) debtor(20)=0");
         Run.of("26: one that owes no more than 0", "folded(10,0,8) folded(0,1,8) change(1,2,10) debtor(1)=1");
         Run.of("26: (living or not)", "paper(0,500) folded(0,500,4) going(5) change(1,2,90) ofPaper(1,9)=0",
@@ -747,5 +756,31 @@ public final class EdgesTest {
             "alike(1)=NONE debtor(0)=NONE trace(0)=NONE told(2)=6");
         Run.of("41: it counts no answers that aren't ERRORS", "text(0)=-10 check()=0 sheet(0,8,0)=1 judge(0)=-1",
             "told(1)=0 told(2)=0 told(3)=0 told(4)=0 told(5)=0");
+    }
+
+    /** One refused call of each act for each of its ERRORS, where there is much that it could change. */
+    private static void amongMuch() {
+        String[] refused = {
+            "paper(70,5)=BEYOND", "6*paper(0,0) paper(5,5)=FULL", "ofPaper(2,0)=BEYOND", "change(0,1,2)=BEYOND",
+            "fold(1,7)=BEYOND", "fold(0,1)=STATE", "become(1,60) fold(1,4)=STATE", "release(2)=BEYOND",
+            "release(0)=STATE",
+            "paper(0,9) release(2)=STATE", "wind(10)=BEYOND", "become(1,70)=BEYOND", "as(1,7)=BEYOND", "as(0,2)=KIND",
+            "feed(49,9)=BEYOND", "5*feed(49,8) feed(49,6)=FULL", "text(2)=BEYOND", "law(2,1,1,1)=BEYOND",
+            "days(61)=BEYOND", "166*days(60) days(33)=STATE", "loose(41)=BEYOND", "166*days(60) loose(33)=STATE",
+            "shape(128,0)=BEYOND", "least(9,1)=BEYOND", "least(1,7)=NONE", "shapes(9,1,0)=BEYOND", "shapes(1,7,1)=NONE",
+            "way(1,128)=BEYOND", "become(1,60) way(1,127)=NONE", "open(1,9)=BEYOND", "alike(2)=BEYOND", "alike(1)=NONE",
+            "then(61,0,0)=BEYOND", "first(2)=BEYOND", "change(0,1,0) first(0)=NONE", "best(0,61,0)=BEYOND",
+            "fits(2,2)=BEYOND", "fits(3,0)=NONE", "fits(0,0)=NONE", "put(2,2,61) fits(2,0)=NONE", "owed(61)=BEYOND",
+            "debtor(31)=BEYOND", "odds(0,2)=BEYOND", "voice(0,4,1)=BEYOND", "trace(5)=NONE", "sheet(0,7,1)=BEYOND",
+            "sheet(0,8,-1)=STATE", "sheet(0,8,41)=BEYOND", "put(4,0,5)=BEYOND", "put(3,0,5)=NONE", "put(1,3,5)=BEYOND",
+            "move(0,0,4,0,1)=BEYOND", "move(0,0,3,0,1)=NONE", "move(0,0,1,0,1)=KIND", "move(1,1,1,0,3)=BEYOND",
+            "move(1,0,1,1,3)=BEYOND", "move(1,0,1,1,-1)=BEYOND", "debts(4)=BEYOND", "debts(3)=NONE", "judge(4)=BEYOND",
+            "judge(3)=NONE", "18*tell(7) tell(8)=FULL", "count(10)=BEYOND", "told(6)=BEYOND"};
+        String sentence = "one that answers an ERROR changes nothing but what told() tells";
+        for (String call : refused) Run.of(sentence, SOME + call);
+        Run.of(sentence, SOME.replace("image() ", "") + "restore()=NONE");
+        Run.of(sentence,
+            "wind(3) days(7) seed(77) lapse(o/9+d) going(9+b-h) row(0,16,8,36) row(1,8,1,2,3) say(w*2) tell(0) image()",
+            "say(+1) tell(0) debtor(5)=NONE");
     }
 }

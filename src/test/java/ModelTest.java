@@ -38,8 +38,35 @@ public final class ModelTest {
             run.play(methods);
             if (run.wrong) bad++;
         }
+        bad += neverThrows(methods);
         System.out.println(bad == 0 ? "all answers are as due" : bad + " runs are not as due");
         if (bad != 0) System.exit(1);
+    }
+
+    /** What is answered behind the 512th call is free, but no call may throw there either. */
+    private static int neverThrows(List<Method> methods) {
+        int bad = 0;
+        for (int seed = 0; seed < 20; seed++) {
+            ModelTest run = new ModelTest(-1 - seed);
+            for (int i = 0; i < 5000; i++) {
+                Method m = methods.get(run.random.nextInt(methods.size()));
+                long[] args = run.arguments(m);
+                try {
+                    m.invoke(run.folds, run.given(m, args));
+                } catch (InvocationTargetException | IllegalAccessException e) {
+                    System.out.println(m.getName() + Arrays.toString(args) + " threw " + e.getCause());
+                    bad++;
+                }
+            }
+        }
+        return bad;
+    }
+
+    private Object[] given(Method m, long[] args) {
+        Object[] given = new Object[args.length];
+        for (int i = 0; i < args.length; i++)
+            given[i] = m.getParameterTypes()[i] == long.class ? (Object) args[i] : (Object) (int) args[i];
+        return given;
     }
 
     private void play(List<Method> methods) {
@@ -169,9 +196,7 @@ public final class ModelTest {
 
     private void call(Method m, long... args) {
         if (wrong) return;
-        Object[] given = new Object[args.length];
-        for (int i = 0; i < args.length; i++)
-            given[i] = m.getParameterTypes()[i] == long.class ? (Object) args[i] : (Object) (int) args[i];
+        Object[] given = given(m, args);
         String told = m.getName() + Arrays.toString(args);
         int want = naive.call(m.getName(), args);
         String got;

@@ -141,16 +141,25 @@ final class Run {
         }
     }
 
-    /** All that can be seen of an object but told(); it is spent then. */
+    /**
+     * All that can be seen of an object but told(); it is spent then. What may itself be refused is asked as late as
+     * can be, lest it hide what the refused call did.
+     */
     private static List<String> seen(Counted x) {
         List<String> all = new ArrayList<>();
         seeDesk(x, all);
         for (int k = 0; k < x.ask("count", 8); k++) see(x, all, "trace", k);
-        for (int k = 0; k < 4; k++) see(x, all, "judge", k);
         see(x, all, "check");
-        see(x, all, "image");
-        see(x, all, "restore");
+        see(x, all, "text", 0);
+        seeTexts(x, all);
         seeSheets(x, all);
+        if (see(x, all, "restore") >= 0) {
+            seeDesk(x, all);
+            see(x, all, "check");
+            see(x, all, "text", 1);
+            seeTexts(x, all);
+        }
+        see(x, all, "image");
         return all;
     }
 
@@ -158,17 +167,6 @@ final class Run {
         for (int k = 0; k < 10; k++) see(x, all, "count", k);
         for (int p = 0; p < x.ask("count", 0); p++) for (int k = 0; k < 6; k++) see(x, all, "ofPaper", p, k);
         seeTexts(x, all);
-        // The image ahead is looked at by going back to it; what stood at first is read again behind that.
-        see(x, all, "text", 0);
-        seeTexts(x, all);
-        see(x, all, "check");
-        if (see(x, all, "restore") >= 0) {
-            for (int k = 0; k < 10; k++) see(x, all, "count", k);
-            for (int p = 0; p < x.ask("count", 0); p++) for (int k = 0; k < 6; k++) see(x, all, "ofPaper", p, k);
-            seeTexts(x, all);
-            see(x, all, "text", 1);
-            seeTexts(x, all);
-        }
     }
 
     private static void seeTexts(Counted x, List<String> all) {
@@ -181,21 +179,25 @@ final class Run {
     /** Numbers are read by making them debts of eight papers, so those below 0 or above 9999 stop that. */
     private static void seeSheets(Counted x, List<String> all) {
         for (long p = x.ask("count", 0); p < 8; p++) x.ask("paper", 0, 0);
-        int[] sizes = new int[4];
-        for (int k = 0; k < 4; k++) sizes[k] = seeSize(x, all, k);
-        for (int k = 0; k < 4; k++)
-            for (int from = 0; from < sizes[k] && from < 16; from += 8) {
-                int n = Math.min(8, sizes[k] - from);
-                see(x, all, "move", k, from, k, 0, n);
-                long read = see(x, all, "debts", k);
-                for (int p = 0; p < read && p < n; p++) see(x, all, "ofPaper", p, 2);
-            }
+        for (int k = 0; k < 4; k++) seeNumbers(x, all, k);
         for (int k = 0; k < 4; k++)
             for (int j = k + 1; j < 4; j++) see(x, all, "move", k, 0, j, 0, 0);
+        for (int k = 0; k < 4; k++) {
+            int size = seeSize(x, all, k);
+            if (size > 8) {
+                see(x, all, "move", k, 8, k, 0, Math.min(8, size - 8));
+                seeNumbers(x, all, k);
+            }
+        }
         for (int bits : new int[] {8, 16}) {
             x.ask("sheet", 3, bits, 0);
             for (int k = 0; k < 3; k++) see(x, all, "move", k, 0, 3, 0, 0);
         }
+    }
+
+    private static void seeNumbers(Counted x, List<String> all, int sheet) {
+        long read = see(x, all, "debts", sheet);
+        for (int p = 0; p < read; p++) see(x, all, "ofPaper", p, 2);
     }
 
     private static int seeSize(Counted x, List<String> all, int sheet) {

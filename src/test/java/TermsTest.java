@@ -252,6 +252,11 @@ public final class TermsTest {
             "law(0,300,300,0)=1");
         Run.of(">: below, alike, above", "going(w>h) law(0,1,2,0)=0 law(0,2,2,0)=0 law(0,3,2,0)=1",
             "law(0,MIN,MAX,0)=0 law(0,MAX,MIN,0)=1");
+        for (String sign : new String[] {"|", "&", "<", "=", ">"})
+            Run.of("| & < = > ! are 1 or 0: " + sign, "going(5+(w" + sign + "h))",
+                "law(0,0,0,0)=" + ("=".equals(sign) ? 6 : 5),
+                "law(0,7,9,0)=" + ("=>".contains(sign) ? 5 : 6), "law(0,9,7,0)=" + ("=<".contains(sign) ? 5 : 6));
+        Run.of("| & < = > ! are 1 or 0: !", "going(5+!w) law(0,0,0,0)=6 law(0,7,0,0)=5 law(0,-7,0,0)=5");
         Run.of("all is worked out", "going(1|w/0)=1 law(0,7,0,0)=1 going(0&w%0)=1 law(0,7,0,0)=0");
     }
 
@@ -373,6 +378,7 @@ public final class TermsTest {
         Run.of("ints that go round: 50", "paper(40,0) voice(0,3,MIN)=2147483642");
         Run.of("ints that go round: 60", "paper(50,0) voice(0,1,MAX)=-1");
         Run.of("ints that go round: 70, 71", "paper(60,0) voice(0,2,MIN)=MIN voice(0,3,MIN)=MIN");
+        bodies();
         Run.of("THE TRACE: empty at first", "count(8)=0 trace(0)=NONE");
         Run.of("THE TRACE: of the latest voice()", "paper(60,0) voice(0,3,1) count(8)=9 voice(0,0,1) count(8)=1",
             "trace(0)=10 trace(1)=NONE");
@@ -387,6 +393,33 @@ public final class TermsTest {
                 Run.of("THE TRACE: the first 40", "paper(" + 10 * kind + ",0) voice(0," + act + ",1)",
                     act == 3 ? "count(8)=" + most[kind] + " trace(" + most[kind] + ")=NONE" : "trace(0)",
             "trace(" + most[kind] + ")=NONE");
+    }
+
+    /** Each voice of each kind, x being 10, m 4, and n as the kind. */
+    private static void bodies() {
+        int[][] said = {
+            {10, 20, 6, 20 ^ 6}, {33, 66, 6, 66 ^ 6}, {12, 24 + 3, 6, 27 ^ 6}, {13, 26, -6, 26 ^ -6},
+            {42, 84, 6, (84 ^ 6) - 18}, {15, 32 + 3, 6, 35 ^ 6}, {16, 32, -6 ^ 6, 32 - (32 ^ (-6 ^ 6))}};
+        String[][] traces = {
+            {"10", "11 10", "12", "13 11 10 12"},
+            {"20 10", "11 20 10", "12", "13 11 20 10 12"},
+            {"10", "30 11 10 12", "12", "13 30 11 10 12 12"},
+            {"10", "11 10", "40 12", "13 11 10 40 12"},
+            {"20 10", "11 20 10", "12", "50 13 11 20 10 12 20 10"},
+            {"10", "60 30 11 10 12", "12", "13 60 30 11 10 12 12"},
+            {"10", "11 10", "70 40 12", "71 11 10 13 11 10 70 40 12"}};
+        for (int kind = 0; kind < 7; kind++)
+            for (int act = 0; act < 4; act++) {
+                String[] trace = traces[kind][act].split(" ");
+                StringBuilder calls = new StringBuilder();
+                for (int k = 0; k <= kind; k++) calls.append("paper(" + (10 * k + 4) + ",0) ");
+                calls.append("voice(" + kind + "," + act + ",10)=" + said[kind][act] + " count(8)=" + trace.length);
+                for (int i = 0; i < trace.length; i++) calls.append(" trace(" + i + ")=" + trace[i]);
+                calls.append(" trace(" + trace.length + ")=NONE");
+                Run.of("the BODY of its KIND, or of the next KIND above that has one", calls.toString());
+            }
+        Run.of("^ and - where bits meet", "4*paper(0,0) paper(33,0) paper(67,0) voice(4,2,10)=-7 voice(4,3,10)=-27",
+            "voice(5,2,10)=-8 voice(5,3,9)=53");
     }
 
     private static void sheets() {
