@@ -188,6 +188,8 @@ public final class EdgesTest {
         Run.of("11: in place of one ahead", "going(5) law(0,0,0,0)=5 going(6) law(0,0,0,0)=6");
         Run.of("11: in place of the one ahead of that USE alone", "going(5) lapse(6) law(0,0,0,0)=5 law(1,0,0,0)=6",
             "lapse(7) law(0,0,0,0)=5 law(1,0,0,0)=7");
+        Run.of("11: in place of a longer one: nothing of it is left", "going(!w) law(0,7,0,0)=0 going(w) law(0,7,0,0)=7",
+            "going(!!w) going(5) law(0,7,0,0)=5 lapse(!o) lapse(o) law(1,7,0,0)=7");
         Run.of("11: in place of a longer one", "going(w+h+b+w+h+b) law(0,1,2,3)=12 going(w) law(0,1,2,3)=1");
         Run.of("11: BEYOND (THE TAPE stays)", "say(5) text(2)=BEYOND text(-1)=BEYOND count(6)=1 text(0)=1",
             "law(0,0,0,0)=5");
@@ -373,6 +375,8 @@ public final class EdgesTest {
             "change(1,2,95) first(0)=1 first(1)=1");
         Run.of("22: which (the least), though another is FARTHER then", "flying(0,5,8) flying(10,5,8)",
             "change(0,2,95) change(1,2,99) first(0)=1 first(1)=0");
+        Run.of("22: 8 PAPERS", "7*paper(0,0) first(0)=NONE flying(0,5,8) change(7,2,90) first(0)=2 first(1)=7",
+            "change(7,1,0) first(0)=NONE");
         Run.of("22: DAY beyond 9999, too", "166*days(60) days(39) flying(50,5,8) going(7) change(0,2,88)",
             "first(0)=3 first(1)=0 count(1)=9999");
         Run.of("22: BEYOND ahead of NONE", "first(2)=BEYOND first(-1)=BEYOND told(2)=0");

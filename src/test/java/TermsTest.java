@@ -192,6 +192,8 @@ public final class TermsTest {
     }
 
     private static void numbersAndNames() {
+        Run.of("a TEXT of 50 bytes, each of them a sign, a NUMBER or a NAME",
+            "going(!w+1+1+1+1+1+1+1+1+1+1+1+1+1+1+1+1+1+1+1+1+1+1+1+h)=1 law(0,0,0,0)=24 law(0,5,9,0)=32");
         Run.of("a NUMBER of 1 to 4 digits: 1", "going(7)=1 law(0,0,0,0)=7");
         Run.of("a NUMBER of 1 to 4 digits: 4", "going(9999-9998)=1 law(0,0,0,0)=1 going(0007)=1 law(0,0,0,0)=7");
         Run.of("a NUMBER of 1 to 4 digits: 5", "going(10000)=-14 going(00001)=-14 going(w+12345)=-16",
